@@ -26,7 +26,7 @@ public final class LinkShaper {
     private static final int LAST_TICK = 1000000000;
 
     /** Behind every tick that can be reached. */
-    private static final int NEVER = Integer.MAX_VALUE;
+    private static final int NEVER = 2000000000;
     private static final int THOUSANDTHS = 1000;
     /** All weights divide it, so that tags are whole numbers. */
     private static final long TAG_SCALE = 27720L;

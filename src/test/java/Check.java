@@ -1,6 +1,7 @@
 /** Counts answers that are not as due, and ends a test's main method with exit code 1 if there were any. */
 final class Check {
     private final String test;
+    private String place = "";
     private int checked = 0;
     private int wrong = 0;
 
@@ -8,24 +9,36 @@ final class Check {
         this.test = test;
     }
 
+    /** What the answers from here on are about. */
+    void in(String newPlace) {
+        place = " " + newPlace;
+    }
+
     void due(String call, long got, long want) {
         checked++;
         if (got != want) {
-            wrong++;
-            System.out.println(test + ": " + call + " answered " + got + ", due is " + want);
+            tell(call, Long.toString(got), Long.toString(want));
         }
     }
 
     void due(String call, boolean got, boolean want) {
-        due(call, got ? 1 : 0, want ? 1 : 0);
+        due(call, Boolean.toString(got), Boolean.toString(want));
     }
 
     void due(String call, String got, String want) {
         checked++;
         if (!got.equals(want)) {
-            wrong++;
-            System.out.println(test + ": " + call + " answered " + got + ", due is " + want);
+            tell(call, got, want);
         }
+    }
+
+    private void tell(String call, String got, String want) {
+        wrong++;
+        System.out.println(test + place + ": " + call + " answered " + got + ", due is " + want);
+    }
+
+    int checked() {
+        return checked;
     }
 
     boolean allDue() {
