@@ -218,6 +218,20 @@ public final class TermsThreeTest {
         CHECK.due("in how many ticks it was held", x.about(0, 7), 148500);
     }
 
+    /** Class 1 takes 64 bytes of the group's tokens, so that those for class 0 would be there in 15640 only. */
+    @Sentence(under = "III", words = DUE)
+    static void dueInTheMiddleOfALongRunBeforeTheTokensAreThere() {
+        LinkShaper x = new LinkShaper();
+        x.group(1, 100, 1500);
+        Shapers.wideLeaf(x, 0, 1, 100);
+        Shapers.wideLeaf(x, 0, 1, 0);
+        Shapers.arriveTimes(x, 2, 0, 1500);
+        x.arrive(1, 64);
+        CHECK.due("run(20000)", x.run(20000), 3);
+        CHECK.due("packet 2", Shapers.packet(x, 2), "1 64 0 1500 2 -1 0");
+        CHECK.due("packet 1", Shapers.packet(x, 1), "0 1500 0 15000 1 30000 0");
+    }
+
     @Sentence(under = "III", words = DUE)
     static void dueOfTheLeastDeadline() {
         LinkShaper x = Shapers.wide(1);
